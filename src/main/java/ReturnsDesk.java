@@ -274,7 +274,7 @@ public final class ReturnsDesk {
 
         private int gradeFee(int grade) {
             // The wrong thing in the parcel is the customer's doing, whatever the reason.
-            if (grade == NEW || reason == FAULT && grade != OTHER) {
+            if (grade == NEW || (reason == FAULT && grade != OTHER)) {
                 return 0;
             }
             if (grade == OPENED) {
